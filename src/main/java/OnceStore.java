@@ -545,7 +545,8 @@ public final class OnceStore {
     }
 
     private void pairParts(int a, int b) {
-        for (int i = 0; i < held[COUNT + a] && pairs < PAIRS; i++) {
+        int count = held[COUNT + a];
+        for (int i = 0; i < count && pairs < PAIRS; i++) {
             pairX[pairs] = held[PARTS + MOST_PARTS * a + i];
             pairY[pairs] = held[PARTS + MOST_PARTS * b + i];
             pairs++;
@@ -619,7 +620,7 @@ public final class OnceStore {
         return true;
     }
 
-    /** The least TRIGGER whose x is NEEDED, or else the least one whose x is not FREE. */
+    /** The least TRIGGER whose x is NEEDED, if that is looked for, or is not FREE, if not; NONE if there is none. */
     private int triggerThatIs(boolean needed) {
         for (int k = 0; k < TRIGGERS; k++) {
             int x = held[TRIGGER_X + k];
@@ -698,8 +699,9 @@ public final class OnceStore {
     private void fillCopy(int c, int z) {
         held[KIND + z] = held[KIND + c];
         held[VALUE + z] = held[VALUE + c];
-        held[COUNT + z] = held[COUNT + c];
-        for (int i = 0; i < held[COUNT + c]; i++) {
+        int count = held[COUNT + c];
+        held[COUNT + z] = count;
+        for (int i = 0; i < count; i++) {
             int p = held[LEAST + held[PARTS + MOST_PARTS * c + i]];
             held[PARTS + MOST_PARTS * z + i] = copies[metAs[p]];
         }
@@ -711,7 +713,8 @@ public final class OnceStore {
                 continue;
             }
             int most = 0;
-            for (int i = 0; i < held[COUNT + c]; i++) {
+            int count = held[COUNT + c];
+            for (int i = 0; i < count; i++) {
                 int p = held[LEAST + held[PARTS + MOST_PARTS * c + i]];
                 most = depths[p] > most ? depths[p] : most;
             }
@@ -750,7 +753,8 @@ public final class OnceStore {
         if (held[KIND + u] != held[KIND + v] || held[VALUE + u] != held[VALUE + v]) {
             return false;
         }
-        for (int i = 0; i < held[COUNT + u]; i++) {
+        int count = held[COUNT + u];
+        for (int i = 0; i < count; i++) {
             addMeeting(held[PARTS + MOST_PARTS * u + i], held[PARTS + MOST_PARTS * v + i]);
         }
         return true;
@@ -790,7 +794,8 @@ public final class OnceStore {
         // No way from one class to another is longer than there are variables.
         for (int round = 0; round < VARIABLES; round++) {
             for (int c = 0; c < VARIABLES; c++) {
-                for (int i = 0; isKept[c] && i < held[COUNT + c]; i++) {
+                int count = isKept[c] ? held[COUNT + c] : 0;
+                for (int i = 0; i < count; i++) {
                     keepWithSame(held[PARTS + MOST_PARTS * c + i]);
                 }
             }
