@@ -9,6 +9,8 @@ public final class OnceStore {
 
     private static final int VARIABLES = 48, TESTS = 8, TRIGGERS = 8, STREAMS = 4, TRIALS = 3;
     private static final int LABELS = 8, MOST_PARTS = 3, NOTES = 60, LAST_NODE = 40;
+    // Far above what 512 calls can NOTE; without an end the count would wrap round below 0.
+    private static final int MOST_NOTED = 1000000;
     private static final int NONE = -1;
     private static final long NO_NODE = -10000000000L;
 
@@ -656,7 +658,9 @@ public final class OnceStore {
         if (count < NOTES) {
             held[NOTE + count] = what;
         }
-        held[NOTE_COUNT] = count + 1;
+        if (count < MOST_NOTED) {
+            held[NOTE_COUNT] = count + 1;
+        }
     }
 
     /** Fills met with one of all that are ALIKE, of x and all that is in it, in the order of copy. */

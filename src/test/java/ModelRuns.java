@@ -4,15 +4,16 @@ import java.util.HashSet;
 import java.util.List;
 import java.util.Map;
 import java.util.Set;
+import java.util.TreeMap;
 import java.util.TreeSet;
+import java.util.function.ToLongFunction;
 
 /**
  * Long runs of mixed calls on OnceStore, each answer held against a second store, which works the
  * answers out anew from the document's definitions each time: from lists of what was told.
  */
-public final class ModelRuns {
-    private static final int REFUSED = -1, FULL = -2, ENDLESS = -3, NOTHING = 0, YES = 1, NO = 2, WAITS = 3;
-    private static final long NO_NODE = -10000000000L;
+public final class ModelRuns extends Checks {
+    private static final int MOST_CALLS = 512;
 
     private record Equation(int x, int y) { }
 
@@ -695,9 +696,11 @@ public final class ModelRuns {
         }
     }
 
+    /** A call, and the answer that the model gave to it. */
+    private record Call(String text, ToLongFunction<OnceStore> on, long due) { }
+
     private static int seed;
-    private static int wrong = 0;
-    private static final Map<String, Integer> answers = new HashMap<>();
+    private static final Map<String, Integer> answers = new TreeMap<>();
 
     private static int below(int n) {
         seed = seed * 1103515245 + 12345;
@@ -713,158 +716,210 @@ public final class ModelRuns {
         return all.get(below(all.size()));
     }
 
+    private static int freeOr(int x, Model m) {
+        for (int z : m.s.used) {
+            if (m.s.told.free(z)) {
+                return z;
+            }
+        }
+        return x;
+    }
+
     private static int index(int n) {
         int[] odd = {-1, n, Integer.MIN_VALUE, Integer.MAX_VALUE};
         return below(30) == 0 ? odd[below(odd.length)] : below(n);
     }
 
-    private static boolean due(int run, int at, String call, long got, long want) {
-        String kind = call.substring(0, call.indexOf('(')) + (want < 0 ? " " + want : want < 4 ? " " + want : " more");
-        answers.merge(kind, 1, Integer::sum);
-        if (got == want) {
-            return true;
+    private static Call call(String name, long due, ToLongFunction<OnceStore> on, Object... arguments) {
+        List<String> texts = new ArrayList<>();
+        for (Object a : arguments) {
+            texts.add(a.toString());
         }
-        wrong++;
-        System.out.println("run " + run + ", call " + at + ": " + call + " answered " + got + ", due is " + want);
-        return false;
+        answers.merge(name + (due < 4 ? " " + due : " more"), 1, Integer::sum);
+        return new Call(name + "(" + String.join(", ", texts) + ")", on, due);
     }
 
-    private static int bit(boolean b) {
-        return b ? 1 : 0;
-    }
-
-    /** One call on both; calls that tell come most often, with few labels and ints so that many fit. */
-    private static boolean step(int run, int at, int most, OnceStore o, Model m) {
+    /**
+     * One call on the model; calls that tell come most often, with few labels and ints so that many fit,
+     * but in quiet runs less often, so that more stay FREE.
+     */
+    private static Call step(int most, boolean quiet, Model m) {
         int x = pick(m);
         int y = pick(m);
-        int v = below(8) == 0 ? Integer.MIN_VALUE + below(2) : below(2);
+        int v = below(8) == 0 ? LOW + below(2) : below(2);
         boolean b = below(2) == 0;
         int t = index(8);
         int q = index(4);
-        switch (below(40)) {
+        int which = below(40);
+        boolean tells = which >= 6 && which <= 18;
+        switch (quiet && tells && below(3) != 0 ? 30 : which) {
             case 0: case 1: case 2: case 3: case 4: case 5:
-                if (m.s.used.size() >= most) {
-                    return due(run, at, "state(0)", o.state(0), m.state(0));
+                if (m.s.used.size() >= most && most < 48) {
+                    return call("state", m.state(0), o -> o.state(0), 0);
                 }
-                return due(run, at, "variable()", o.variable(), m.variable());
+                return call("variable", m.variable(), o -> o.variable());
             case 6: case 7: case 8:
-                return due(run, at, "equal(" + x + ", " + y + ")", o.equal(x, y), m.equal(x, y));
+                return call("equal", m.equal(x, y), o -> o.equal(x, y), x, y);
             case 9:
-                return due(run, at, "number(" + x + ", " + v + ")", o.number(x, v), m.number(x, v));
+                return call("number", m.number(x, v), o -> o.number(x, v), x, v);
             case 10: case 11: case 12: case 13: case 14:
-                return due(run, at, "part(" + x + ")", o.part(x), m.part(x));
+                return call("part", m.part(x), o -> o.part(x), x);
             case 15: case 16: case 17: case 18: {
                 int label = below(25) == 0 ? index(8) : below(12) == 0 ? 7 : below(2);
-                return due(run, at, "make(" + x + ", " + label + ")", o.make(x, label), m.make(x, label));
+                return call("make", m.make(x, label), o -> o.make(x, label), x, label);
             }
             case 19:
-                return below(6) != 0 || due(run, at, "undraft()", o.undraft(), m.undraft());
+                return below(6) == 0 ? call("undraft", m.undraft(), o -> o.undraft())
+                        : call("part", m.part(y), o -> o.part(y), y);
             case 20:
-                return due(run, at, "compare(" + x + ", " + y + ")", o.compare(x, y), m.compare(x, y));
+                return call("compare", m.compare(x, y), o -> o.compare(x, y), x, y);
             case 21: case 22: {
                 int z = below(3) == 0 ? -1 : y;
-                return due(run, at, "test(" + t + ", " + x + ", " + z + ")", o.test(t, x, z), m.test(t, x, z));
+                return call("test", m.test(t, x, z), o -> o.test(t, x, z), t, x, z);
             }
             case 23:
-                return due(run, at, "tested(" + t + ")", o.tested(t), m.tested(t));
+                return call("tested", m.tested(t), o -> o.tested(t), t);
             case 24: case 25: case 26:
-                return due(run, at, "trigger(" + t + ", " + x + ", " + y + ")", bit(o.trigger(t, x, y)), m.trigger(t, x, y));
+                return call("trigger", m.trigger(t, x, y), o -> bit(o.trigger(t, x, y)), t, x, y);
             case 27:
-                return below(3) != 0 || due(run, at, "need(" + x + ")", bit(o.need(x)), m.need(x));
+                return below(3) == 0 ? call("need", m.need(x), o -> bit(o.need(x)), x)
+                        : call("same", m.same(x), o -> o.same(x), x);
             case 28: {
                 int k = below(3) == 0 ? index(62) : index(m.s.notes.size() + 1);
-                return due(run, at, "noted(" + k + ")", o.noted(k), m.noted(k));
+                return call("noted", m.noted(k), o -> o.noted(k), k);
             }
             case 29: {
-                int z = below(6) == 0 ? -1 : x;
-                return due(run, at, "stream(" + q + ", " + z + ")", bit(o.stream(q, z)), m.stream(q, z));
+                int z = below(6) == 0 ? -1 : below(2) == 0 ? x : freeOr(x, m);
+                return call("stream", m.stream(q, z), o -> bit(o.stream(q, z)), q, z);
             }
-            case 30:
-                return due(run, at, "put(" + q + ", " + x + ")", o.put(q, x), m.put(q, x));
-            case 31:
-                return due(run, at, "end(" + q + ")", o.end(q), m.end(q));
-            case 32:
-                return due(run, at, "begin()", o.begin(), m.begin());
-            case 33:
-                return due(run, at, "finish(" + b + ")", bit(o.finish(b)), m.finish(b));
-            case 34:
-                return below(4) != 0 || due(run, at, "copy(" + x + ")", o.copy(x), m.copy(x));
-            case 35:
-                return due(run, at, "different(" + x + ")", o.different(x), m.different(x))
-                        && due(run, at, "depth(" + x + ")", o.depth(x), m.depth(x));
-            case 36:
-                return due(run, at, "matches(" + x + ", " + y + ")", o.matches(x, y), m.matches(x, y));
-            case 37:
-                return due(run, at, "root(" + x + ", " + b + ")", bit(o.root(x, b)), m.root(x, b));
-            case 38:
-                return below(4) != 0 || due(run, at, "clear()", o.clear(), m.clear());
+            default:
+                return stepMore(m, x, y, q, b);
+        }
+    }
+
+    private static Call stepMore(Model m, int x, int y, int q, boolean b) {
+        switch (below(12)) {
+            case 0:
+                return call("put", m.put(q, x), o -> o.put(q, x), q, x);
+            case 1:
+                return call("end", m.end(q), o -> o.end(q), q);
+            case 2:
+                return call("begin", m.begin(), o -> o.begin());
+            case 3:
+                return call("finish", m.finish(b), o -> bit(o.finish(b)), b);
+            case 4:
+                return below(4) == 0 ? call("copy", m.copy(x), o -> o.copy(x), x)
+                        : call("put", m.put(q, y), o -> o.put(q, y), q, y);
+            case 5:
+                return call("different", m.different(x), o -> o.different(x), x);
+            case 6:
+                return call("depth", m.depth(x), o -> o.depth(x), x);
+            case 7:
+                return call("matches", m.matches(x, y), o -> o.matches(x, y), x, y);
+            case 8: case 9:
+                return call("root", m.root(x, b), o -> bit(o.root(x, b)), x, b);
+            case 10:
+                return below(4) == 0 ? call("clear", m.clear(), o -> o.clear())
+                        : call("root", m.root(y, b), o -> bit(o.root(y, b)), y, b);
             default: {
                 int k = below(2) == 0 ? below(6) : index(42);
-                return due(run, at, "node(" + x + ", " + k + ", " + b + ")", o.node(x, k, b), m.node(x, k, b));
+                return call("node", m.node(x, k, b), o -> o.node(x, k, b), x, k, b);
             }
         }
     }
 
-    private static boolean look(int run, int at, OnceStore o, Model m) {
-        boolean good = true;
+    private static void lookAtCounts(Model m, List<Call> looks) {
         for (int i = -1; i <= 5; i++) {
-            good &= due(run, at, "state(" + i + ")", o.state(i), m.state(i));
+            int what = i;
+            looks.add(call("state", m.state(what), o -> o.state(what), what));
         }
-        for (int x = -1; x <= 48; x++) {
-            good &= due(run, at, "same(" + x + ")", o.same(x), m.same(x));
+        for (int i = -1; i <= 48; i++) {
+            int x = i;
+            looks.add(call("same", m.same(x), o -> o.same(x), x));
         }
-        for (int t = 0; t < 8; t++) {
-            good &= due(run, at, "tested(" + t + ")", o.tested(t), m.tested(t));
+        for (int i = -1; i <= 8; i++) {
+            int t = i;
+            looks.add(call("tested", m.tested(t), o -> o.tested(t), t));
+            looks.add(call("end", m.end(t), o -> o.end(t), t));
         }
-        for (int s = 0; s < 4; s++) {
-            good &= due(run, at, "end(" + s + ")", o.end(s), m.end(s));
+        for (int i = -1; i <= 61; i++) {
+            int k = i;
+            looks.add(call("noted", m.noted(k), o -> o.noted(k), k));
         }
-        for (int k = -1; k <= 61; k++) {
-            good &= due(run, at, "noted(" + k + ")", o.noted(k), m.noted(k));
-        }
-        return good;
     }
 
-    /** Every pair and every tree: dear, so at the end of a run alone. */
-    private static void lookAtAll(int run, OnceStore o, Model m) {
-        for (int x = 0; x < 48; x++) {
-            due(run, 512, "different(" + x + ")", o.different(x), m.different(x));
-            due(run, 512, "depth(" + x + ")", o.depth(x), m.depth(x));
-            for (int y = 0; y < 48; y++) {
-                due(run, 512, "compare(" + x + ", " + y + ")", o.compare(x, y), m.compare(x, y));
-                if (m.s.used.size() < 16) {
-                    due(run, 512, "matches(" + x + ", " + y + ")", o.matches(x, y), m.matches(x, y));
-                }
-            }
-            for (int k = 0; k <= 41; k++) {
-                due(run, 512, "node(" + x + ", " + k + ", false)", o.node(x, k, false), m.node(x, k, false));
-                due(run, 512, "node(" + x + ", " + k + ", true)", o.node(x, k, true), m.node(x, k, true));
+    private static void lookAtTrees(Model m, int x, List<Call> looks) {
+        looks.add(call("different", m.different(x), o -> o.different(x), x));
+        looks.add(call("depth", m.depth(x), o -> o.depth(x), x));
+        for (int i = 0; i <= 41; i++) {
+            int k = i;
+            looks.add(call("node", m.node(x, k, false), o -> o.node(x, k, false), x, k, false));
+            looks.add(call("node", m.node(x, k, true), o -> o.node(x, k, true), x, k, true));
+        }
+    }
+
+    private static void lookAtPairs(Model m, int x, List<Call> looks) {
+        for (int i = 0; i < 48; i++) {
+            int y = i;
+            looks.add(call("compare", m.compare(x, y), o -> o.compare(x, y), x, y));
+            // Dear for the model, where many meet many.
+            if (m.s.used.size() < 16) {
+                looks.add(call("matches", m.matches(x, y), o -> o.matches(x, y), x, y));
             }
         }
+    }
+
+    private static void hold(OnceStore o, int from, List<Call> calls) {
+        int at = from;
+        for (Call c : calls) {
+            at++;
+            due("call " + at + ", " + c.text, c.on.applyAsLong(o), c.due);
+        }
+    }
+
+    /** Looks that change nothing, on as many objects that had the calls as it takes to keep within 512 on each. */
+    private static void look(List<Call> calls, List<Call> looks) {
+        int room = MOST_CALLS - calls.size();
+        for (int from = 0; from < looks.size(); from += room) {
+            OnceStore o = new OnceStore();
+            hold(o, 0, calls);
+            hold(o, calls.size(), looks.subList(from, Math.min(from + room, looks.size())));
+        }
+    }
+
+    private static void run(int length, int most, boolean quiet) {
+        Model m = new Model();
+        List<Call> calls = new ArrayList<>();
+        for (int at = 1; at <= length; at++) {
+            calls.add(step(most, quiet, m));
+            if (at % 40 == 0) {
+                List<Call> looks = new ArrayList<>();
+                lookAtCounts(m, looks);
+                look(calls, looks);
+            }
+        }
+        List<Call> looks = new ArrayList<>();
+        lookAtCounts(m, looks);
+        for (int x = 0; x < 48; x++) {
+            lookAtTrees(m, x, looks);
+            lookAtPairs(m, x, looks);
+        }
+        look(calls, looks);
     }
 
     public static void main(String[] args) {
-        int runs = args.length > 0 ? Integer.parseInt(args[0]) : 150;
+        int runs = args.length > 0 ? Integer.parseInt(args[0]) : 300;
         int first = args.length > 1 ? Integer.parseInt(args[1]) : 1;
         int[] sizes = {4, 8, 12, 20, 48};
-        for (int run = first; run < first + runs && wrong == 0; run++) {
+        for (int run = first; run < first + runs && !anyWrong(); run++) {
+            at("run " + run);
             seed = run * 7919;
-            OnceStore o = new OnceStore();
-            Model m = new Model();
-            // Looking changes nothing, so it doesn't matter to what is promised that it adds calls.
-            for (int at = 1; at <= 400; at++) {
-                if (!step(run, at, sizes[run % sizes.length], o, m) || !look(run, at, o, m)) {
-                    break;
-                }
-            }
-            lookAtAll(run, o, m);
+            int length = 60 + below(400);
+            run(length, sizes[run % sizes.length], run % 3 == 0);
         }
         if (args.length > 0) {
-            new java.util.TreeMap<>(answers).forEach((k, n) -> System.out.println(k + ": " + n));
+            answers.forEach((k, n) -> System.out.println(k + ": " + n));
         }
-        System.out.println(wrong == 0 ? "all answers are as due" : wrong + " answers are not as due");
-        if (wrong != 0) {
-            System.exit(1);
-        }
+        tellAndExit();
     }
 }
