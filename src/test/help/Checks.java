@@ -92,6 +92,7 @@ class Checks {
         looks.add(Checks::triggers);
         looks.add(Checks::asked);
         looks.add(Checks::waiting);
+        looks.add(Checks::joined);
         looks.add(Checks::trials);
         looks.add(Checks::drafted);
         looks.add(o -> bit(o.finish(true)) + " " + o.clear() + ": " + counts(o));
@@ -177,6 +178,14 @@ class Checks {
         StringBuilder seen = new StringBuilder();
         for (int x = 0; x < 48; x++) {
             seen.append(o.number(x, 1000 + x)).append(' ').append(o.noted(-1)).append(' ');
+        }
+        return seen.append(counts(o)).toString();
+    }
+
+    private static String joined(OnceStore o) {
+        StringBuilder seen = new StringBuilder();
+        for (int x = 47; x > 0; x -= 3) {
+            seen.append(o.equal(x, x - 1)).append(' ').append(o.noted(-1)).append(' ');
         }
         return seen.append(counts(o)).toString();
     }

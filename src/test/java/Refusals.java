@@ -220,6 +220,7 @@ public final class Refusals extends Checks {
             for (int i = 20; i < 48; i++) {
                 o.variable();
             }
+            o.need(0);
         });
         refused("variable()", o -> o.variable(), FULL);
         refused("copy(0)", o -> o.copy(GOOD), FULL);

@@ -186,6 +186,17 @@ public final class Sentences extends Checks {
             due("one behind the last one", o.number(48, 5), REFUSED);
             due("first with last", o.equal(0, 47), YES);
             due("48 in USE", o.state(0), 48);
+            OnceStore asked = with(48);
+            for (int x = 0; x < 48; x++) {
+                asked.need(x);
+                asked.root(x, true);
+            }
+            due("48 in USE, also if all are asked for", asked.state(0), 48);
+            due("47 is the last one still", asked.same(48), REFUSED);
+            due("0 is the first one still", asked.same(-1), REFUSED);
+            OnceStore few = with(3);
+            few.need(0);
+            due("three in USE", few.state(0), 3);
         });
         sentence("EQUATIONS are told of them: x = y, x = an int, x = a RECORD:", () -> {
             OnceStore o = with(6);
@@ -309,6 +320,16 @@ public final class Sentences extends Checks {
             make(o, 6, 2, 7);
             due("5 has the RECORD of 6", o.node(5, 0, false), 2 + 8 + 1);
             due("so it has no int", o.number(5, 0), NO);
+            OnceStore lesser = with(12);
+            make(lesser, 10, 2, 7, 8, 9);
+            make(lesser, 11, 1, 6);
+            lesser.equal(0, 10);
+            lesser.equal(11, 1);
+            dueNumbers(lesser, 0, 0, 7, 8, 9);
+            dueNodes(lesser, 0, 2 + 8 + 3, 0, 0, 0);
+            dueNumbers(lesser, 1, 0, 6);
+            lesser.number(9, 5);
+            due("a lesser one has all of a RECORD", lesser.node(0, 3, true), 5);
         });
         sentence("without any it is FREE.", () -> {
             OnceStore o = with(4);
@@ -394,6 +415,8 @@ public final class Sentences extends Checks {
             dueUnchanged("equal(1, 0)", run, s -> s.equal(1, 0));
             dueUnchanged("make(0, 0)", run, s -> make(s, 0, 0, 5, 6, 7));
             dueUnchanged("put(0, 1)", run, s -> s.put(0, 1));
+            due("what is told next", o.equal(10, 11), YES);
+            due("brings nothing of it", o.state(1), 19);
         }
     }
 
@@ -591,6 +614,13 @@ public final class Sentences extends Checks {
             o.test(3, 9, -1);
             o.trigger(6, 8, 15);
             due("not one whose TEST was set anew", o.noted(-1), 4);
+            OnceStore others = with(2);
+            others.root(0, true);
+            others.stream(0, 0);
+            others.part(0);
+            others.trigger(0, 0, 1);
+            others.trigger(1, 1, 0);
+            due("not a ROOT, an END, a drafted one, or that of a TRIGGER", others.noted(-1), 0);
         });
     }
 
@@ -628,6 +658,16 @@ public final class Sentences extends Checks {
             needs.trigger(0, 2, 3);
             needs.need(1);
             dueNotes(needs, 17, 16);
+            // By 5 = 0(6, 7) at once 0 gets an int, so that TRIGGER 0 does nothing, and 1 is NEEDED.
+            OnceStore both = with(10);
+            both.number(6, 1);
+            both.need(7);
+            both.trigger(0, 0, 2);
+            both.trigger(1, 1, 3);
+            both.test(0, 1, 3);
+            make(both, 5, 0, 0, 1);
+            make(both, 5, 0, 6, 7);
+            dueNotes(both, 17, 0);
         });
         sentence("the TESTS that WAIT, by numbers, are decided if they are not to WAIT any more (that is NOTED);", () -> {
             OnceStore o = with(4);
@@ -658,6 +698,13 @@ public final class Sentences extends Checks {
             dueNotes(o);
             o.root(4, true);
             due("they keep none", o.clear(), 7);
+            OnceStore all = with(9);
+            for (int k = 0; k < 8; k++) {
+                all.trigger(k, 0, k + 1);
+            }
+            all.number(0, 5);
+            due("all at once", all.clear(), 9);
+            dueNotes(all);
         });
         sentence("or, if there is none, the least whose x is NEEDED goes (that is NOTED), and its x = y is told;", () -> {
             OnceStore o = with(12);
@@ -867,6 +914,23 @@ public final class Sentences extends Checks {
                 due("alone", o.same(x), x);
             }
             due("none is left", o.variable(), FULL);
+            OnceStore again = with(5);
+            again.number(0, 9);
+            make(again, 1, 3, 2, 3, 4);
+            again.clear();
+            for (int x = 0; x < 6; x++) {
+                due("all anew", again.variable(), x);
+            }
+            dueNodes(again, 1, 0);
+            again.number(1, 7);
+            dueNumbers(again, 1, 7);
+            due("no RECORD is left of it", again.depth(1), 0);
+            again.make(0, 3);
+            again.make(5, 3);
+            due("no int is left of it", again.compare(0, 5), YES);
+            dueNumbers(again, 0, 0);
+            again.root(1, true);
+            due("no PARTS are left of it", again.clear(), 5);
         });
         sentence("FULL if there is none.", () -> {
             OnceStore o = with(47);
@@ -1569,6 +1633,7 @@ public final class Sentences extends Checks {
             due("0, 2, 4, 6 and 8 to 11 go", o.clear(), 8);
             due("the copy", o.copy(1), 0);
             dueNumbers(o, 0, 0, 2, 4, 6);
+            dueNumbers(o, 1, 0, 5, 3, 7);
             dueInUse(o, 0, 1, 2, 3, 4, 5, 6, 7);
         });
         sentence("first x, then, of a RECORD, each PART with all that is in it before the next one;", () -> {
@@ -1736,6 +1801,16 @@ public final class Sentences extends Checks {
             due("FREE", o.depth(0), 0);
             o.number(0, 5);
             due("an int", o.depth(0), 0);
+            OnceStore back = with(2);
+            back.begin();
+            make(back, 0, 0, 0);
+            make(back, 1, 0, 0);
+            due("endless, within a TRIAL", back.depth(1), ENDLESS);
+            back.finish(false);
+            due("none after it", back.depth(1), 0);
+            due("none after it", back.depth(0), 0);
+            make(back, 1, 0, 0);
+            due("one around none", back.depth(1), 1);
         });
         sentence("ENDLESS if there are as many as one likes;", () -> {
             OnceStore o = with(8);
@@ -1996,6 +2071,13 @@ public final class Sentences extends Checks {
                 o.trigger(7, x, x);
             }
             due("none is asked for", o.noted(-1), 3);
+            for (int x = 0; x < 8; x++) {
+                OnceStore decided = with(8);
+                decided.number(x, 1);
+                decided.number(7 - x, 2);
+                decided.test(0, x, 7 - x);
+                due("a TEST of " + x + " that is decided", decided.clear(), 8);
+            }
             OnceStore kept = with(3);
             kept.need(0);
             kept.root(0, true);
