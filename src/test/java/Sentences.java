@@ -1719,6 +1719,12 @@ public final class Sentences extends Checks {
             due("depth", half.depth(24), 23);
             due("none is left", half.copy(47), FULL);
             due("25 of 48", chain(25).copy(0), FULL);
+            OnceStore wide = with(24);
+            for (int x = 0; x < 24; x++) {
+                make(wide, x, x == 23 ? 1 : 0, (x + 1) % 24, 0, 0);
+            }
+            due("24 of 48, with three PARTS each", wide.copy(0), 24);
+            due("the last one is ALIKE to what it is of", wide.compare(47, 23), YES);
         });
         sentence("REFUSED if x is not in USE.", () -> {
             int[] none = {-1, 2, 47, 48, LOW, HIGH};
@@ -1757,6 +1763,11 @@ public final class Sentences extends Checks {
                 make(same, x, 0, (x + 1) % 48);
             }
             due("a round of 48 that are all ALIKE", same.different(20), 1);
+            OnceStore wide = with(48);
+            for (int x = 0; x < 48; x++) {
+                make(wide, x, x == 47 ? 1 : 0, (x + 1) % 48, 0, 0);
+            }
+            due("all different, with three PARTS each", wide.different(0), 48);
         });
         sentence("REFUSED likewise.", () -> {
             int[] none = {-1, 2, 47, 48, LOW, HIGH};
