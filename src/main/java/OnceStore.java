@@ -17,6 +17,7 @@ public final class OnceStore {
     // Kinds are the codes that node() answers, so that equal kinds mean RECORDS that fit each other.
     private static final int FREE = 0, INT = 1, RECORD = 2, LABEL_STEP = 4;
     private static final int STREAM_LABEL = 7, STREAM_PARTS = 2;
+    private static final int NOTED_YES = 0, NOTED_NO = 8, NOTED_TRIGGER = 16;
 
     // All that a TRIAL takes back lies in one array, so that a TRIAL is one copy of it.
     // What was told stands first, so that a telling that FAILS can be undone by itself.
@@ -74,8 +75,7 @@ public final class OnceStore {
 
     public OnceStore() {
         for (int k = 0; k < TRIGGERS; k++) {
-            held[TRIGGER_X + k] = NONE;
-            held[TRIGGER_Y + k] = NONE;
+            removeTrigger(k);
         }
         for (int s = 0; s < STREAMS; s++) {
             held[END + s] = NONE;
@@ -507,7 +507,7 @@ public final class OnceStore {
         return undoneIfFailed(verdict);
     }
 
-    /** YES if x and y are ALIKE, NO if UNLIKE, WAITS if OPEN: what telling x = y would come to. */
+    // ALIKE, UNLIKE and OPEN differ in what x = y would come to, so that it is told, and taken back at once.
     private int likeness(int x, int y) {
         rememberTold();
         pairX[0] = x;
@@ -518,10 +518,8 @@ public final class OnceStore {
         return verdict;
     }
 
-    /**
-     * Makes the pairs the SAME, with all that follows: NO if that FAILS, WAITS if a FREE variable
-     * became the SAME as another one, else YES (then all that was joined was ALIKE before).
-     */
+    // WAITS if a FREE variable was joined with another one: but for that, all that are joined were ALIKE before.
+    // NO leaves the work half done, since whoever calls takes it back then.
     private int merge() {
         int verdict = YES;
         for (int i = 0; i < PAIRS && i < pairs; i++) {
@@ -596,45 +594,52 @@ public final class OnceStore {
             }
             if (verdict != WAITS) {
                 held[TEST_STATE + t] = verdict;
-                note(verdict == YES ? t : TESTS + t);
+                note(verdict == YES ? NOTED_YES + t : NOTED_NO + t);
             }
         }
     }
 
-    /** Lets one TRIGGER go, if there is one that is to: whether there was. */
     private boolean goTrigger() {
-        int k = triggerThatIs(false);
+        int k = triggerWithValue();
         if (k != NONE) {
-            held[TRIGGER_X + k] = NONE;
-            held[TRIGGER_Y + k] = NONE;
+            removeTrigger(k);
             return true;
         }
-        k = triggerThatIs(true);
+        k = neededTrigger();
         if (k == NONE) {
             return false;
         }
         int x = held[TRIGGER_X + k];
         int y = held[TRIGGER_Y + k];
-        held[TRIGGER_X + k] = NONE;
-        held[TRIGGER_Y + k] = NONE;
-        note(TESTS + TESTS + k);
+        removeTrigger(k);
+        note(NOTED_TRIGGER + k);
         tellEqual(x, y);
         return true;
     }
 
-    /** The least TRIGGER whose x is NEEDED, if that is looked for, or is not FREE, if not; NONE if there is none. */
-    private int triggerThatIs(boolean needed) {
+    private int triggerWithValue() {
         for (int k = 0; k < TRIGGERS; k++) {
             int x = held[TRIGGER_X + k];
-            if (x == NONE) {
-                continue;
-            }
-            boolean goes = needed ? isNeeded(x) : !isFree(x);
-            if (goes) {
+            if (x != NONE && !isFree(x)) {
                 return k;
             }
         }
         return NONE;
+    }
+
+    private int neededTrigger() {
+        for (int k = 0; k < TRIGGERS; k++) {
+            int x = held[TRIGGER_X + k];
+            if (x != NONE && isNeeded(x)) {
+                return k;
+            }
+        }
+        return NONE;
+    }
+
+    private void removeTrigger(int k) {
+        held[TRIGGER_X + k] = NONE;
+        held[TRIGGER_Y + k] = NONE;
     }
 
     private boolean isNeeded(int x) {
@@ -663,7 +668,7 @@ public final class OnceStore {
         }
     }
 
-    /** Fills met with one of all that are ALIKE, of x and all that is in it, in the order of copy. */
+    // One of all that are ALIKE is enough in met: the others' PARTS are ALIKE to its own, and so met with them.
     private void gather(int x) {
         metCount = 0;
         stack[0] = x;
@@ -681,7 +686,6 @@ public final class OnceStore {
         }
     }
 
-    /** Where in met one that is ALIKE to c stands, or where c is to stand if there is none. */
     private int metIndex(int c) {
         for (int m = 0; m < VARIABLES && m < metCount; m++) {
             if (likeness(c, met[m]) == YES) {
@@ -745,7 +749,6 @@ public final class OnceStore {
         }
     }
 
-    /** Whether u may meet v; what follows from it is added to the meetings. */
     private boolean meetingHolds(int u, int v) {
         if (held[KIND + u] == FREE) {
             if (firstMet[u] == NONE) {

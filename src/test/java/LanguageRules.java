@@ -1,7 +1,12 @@
 import com.sun.source.tree.AssertTree;
+import com.sun.source.tree.AssignmentTree;
+import com.sun.source.tree.BinaryTree;
 import com.sun.source.tree.ClassTree;
 import com.sun.source.tree.CompilationUnitTree;
+import com.sun.source.tree.CompoundAssignmentTree;
+import com.sun.source.tree.DoWhileLoopTree;
 import com.sun.source.tree.EnhancedForLoopTree;
+import com.sun.source.tree.ForLoopTree;
 import com.sun.source.tree.IdentifierTree;
 import com.sun.source.tree.InstanceOfTree;
 import com.sun.source.tree.LambdaExpressionTree;
@@ -16,9 +21,13 @@ import com.sun.source.tree.SynchronizedTree;
 import com.sun.source.tree.ThrowTree;
 import com.sun.source.tree.Tree;
 import com.sun.source.tree.TryTree;
+import com.sun.source.tree.TypeCastTree;
+import com.sun.source.tree.UnaryTree;
 import com.sun.source.tree.VariableTree;
+import com.sun.source.tree.WhileLoopTree;
 import com.sun.source.util.JavacTask;
 import com.sun.source.util.TreePathScanner;
+import com.sun.source.util.TreeScanner;
 import com.sun.source.util.Trees;
 import java.lang.reflect.Constructor;
 import java.lang.reflect.Field;
@@ -95,6 +104,7 @@ public final class LanguageRules {
             boolean constant = Modifier.isStatic(f.getModifiers());
             rule(5, !constant || f.getType() == int.class || f.getType() == long.class, "static " + f.getName());
             rule(5, !constant || Modifier.isFinal(f.getModifiers()), "static " + f.getName() + " is not final");
+            rule(4, !f.getType().isArray() || Modifier.isFinal(f.getModifiers()), f.getName() + " can be assigned to");
             fields += constant ? 0 : 1;
             if (!Modifier.isPrivate(f.getModifiers())) {
                 open.add(f.getName());
@@ -124,12 +134,18 @@ public final class LanguageRules {
         private final CompilationUnitTree unit;
         private final Trees trees;
         private final Map<String, Set<String>> calls = new HashMap<>();
+        private final Set<String> arrays = new TreeSet<>();
         private String method = "";
         private int inArguments = 0;
 
         Look(CompilationUnitTree unit, Trees trees) {
             this.unit = unit;
             this.trees = trees;
+            for (Field f : OnceStore.class.getDeclaredFields()) {
+                if (f.getType().isArray()) {
+                    arrays.add(f.getName());
+                }
+            }
         }
 
         private long line(Tree t, boolean end) {
@@ -227,6 +243,86 @@ public final class LanguageRules {
 
         @Override public Void visitMemberReference(MemberReferenceTree t, Void p) {
             never(6, t);
+            return null;
+        }
+
+        @Override public Void visitTypeCast(TypeCastTree t, Void p) {
+            rule(6, t.getType().toString().matches("int|long|short|byte|char"), "a cast to " + t.getType());
+            return super.visitTypeCast(t, p);
+        }
+
+        @Override public Void visitAssignment(AssignmentTree t, Void p) {
+            noArrayIsNamed(t.getVariable());
+            noArrayIsNamed(t.getExpression());
+            return super.visitAssignment(t, p);
+        }
+
+        @Override public Void visitBinary(BinaryTree t, Void p) {
+            noArrayIsNamed(t.getLeftOperand());
+            noArrayIsNamed(t.getRightOperand());
+            divides(t.getKind(), t.getRightOperand());
+            return super.visitBinary(t, p);
+        }
+
+        @Override public Void visitCompoundAssignment(CompoundAssignmentTree t, Void p) {
+            divides(t.getKind(), t.getExpression());
+            return super.visitCompoundAssignment(t, p);
+        }
+
+        private void noArrayIsNamed(Tree t) {
+            rule(4, !arrays.contains(t.toString()), "line " + line(t, false) + ": an array assigned to or compared");
+        }
+
+        /** All constants of the class that divide are above 0; another divisor would have to be looked at first. */
+        private void divides(Tree.Kind kind, Tree divisor) {
+            boolean does = kind.name().startsWith("DIVIDE") || kind.name().startsWith("REMAINDER");
+            rule(7, !does || divisor.toString().equals("VARIABLES"), "line " + line(divisor, false) + ": divides by " + divisor);
+        }
+
+        /** The rules let other loops be, but the ends of these are seen by a program, too. */
+        @Override public Void visitForLoop(ForLoopTree t, Void p) {
+            String counter = t.getInitializer().size() == 1 && t.getInitializer().get(0) instanceof VariableTree v
+                    ? v.getName().toString() : "none";
+            String step = t.getUpdate().size() == 1 ? t.getUpdate().get(0).toString() : "";
+            String ends = String.valueOf(t.getCondition());
+            boolean up = step.equals(counter + "++;") && ends.matches("\\(?" + counter + " <=? \\w+\\b.*");
+            boolean down = step.equals(counter + "--;") && ends.matches("\\(?" + counter + " >=? \\w+\\b.*");
+            rule(8, (up || down) && !ends.contains("||"), "line " + line(t, false) + ": the loop's end can't be seen");
+            String bound = ends.replaceFirst("\\(?" + counter + " [<>]=? (\\w+)\\b.*", "$1");
+            rule(8, !changes(t.getStatement(), counter) && !changes(t.getStatement(), bound),
+                    "line " + line(t, false) + ": the loop changes its counter or its bound");
+            return super.visitForLoop(t, p);
+        }
+
+        private static boolean changes(Tree body, String name) {
+            boolean[] found = {false};
+            new TreeScanner<Void, Void>() {
+                @Override public Void visitAssignment(AssignmentTree t, Void p) {
+                    found[0] |= t.getVariable().toString().equals(name);
+                    return super.visitAssignment(t, p);
+                }
+
+                @Override public Void visitCompoundAssignment(CompoundAssignmentTree t, Void p) {
+                    found[0] |= t.getVariable().toString().equals(name);
+                    return super.visitCompoundAssignment(t, p);
+                }
+
+                @Override public Void visitUnary(UnaryTree t, Void p) {
+                    boolean steps = t.getKind().name().endsWith("CREMENT");
+                    found[0] |= steps && t.getExpression().toString().equals(name);
+                    return super.visitUnary(t, p);
+                }
+            }.scan(body, null);
+            return found[0];
+        }
+
+        @Override public Void visitWhileLoop(WhileLoopTree t, Void p) {
+            never(8, t);
+            return null;
+        }
+
+        @Override public Void visitDoWhileLoop(DoWhileLoopTree t, Void p) {
+            never(8, t);
             return null;
         }
 
