@@ -1888,6 +1888,17 @@ public final class Sentences extends Checks {
             late.number(47, 2);
             due("rounds of 23 that fit", late.matches(0, 23), YES);
             due("and that do not, one further on", late.matches(0, 24), NO);
+            OnceStore often = with(46);
+            for (int x = 0; x < 44; x++) {
+                // Each lies thrice in the one before: ways down are far more than there are pairs.
+                int next = x == 21 ? 44 : x == 43 ? 45 : x + 1;
+                make(often, x, 0, next, next, next);
+            }
+            due("22 deep, with one that is FREE", often.matches(0, 22), YES);
+            often.number(44, 1);
+            due("with one that does not fit", often.matches(0, 22), NO);
+            often.number(45, 1);
+            due("with one that does", often.matches(0, 22), YES);
         });
         sentence("YES if of each meeting u with v u is FREE,", () -> {
             OnceStore o = with(6);
@@ -2022,6 +2033,19 @@ public final class Sentences extends Checks {
             o.trigger(7, 43, 44);
             due("37 go", o.clear(), 37);
             dueInUse(o, 0, 1, 2, 3, 4, 5, 43, 44, 45, 46, 47);
+            for (int i = 0; i < 8; i++) {
+                OnceStore tests = with(10);
+                tests.test(i, 4, 6);
+                due("all but those of TEST " + i, tests.clear(), 8);
+                dueInUse(tests, 4, 6);
+                OnceStore triggers = with(10);
+                triggers.trigger(i, 4, 6);
+                due("all but those of TRIGGER " + i, triggers.clear(), 8);
+                dueInUse(triggers, 4, 6);
+                OnceStore streams = with(10);
+                due("STREAM " + i, streams.stream(i, 4), i < 4);
+                due("all but its END", streams.clear(), i < 4 ? 9 : 10);
+            }
         });
         sentence("all that are the SAME as one that is KEPT,", () -> {
             OnceStore o = with(10);
